@@ -503,11 +503,12 @@ public final class JobText {
 
     private static int nameByte(long name, int i) {
         int length = nameLength(name);
-        if (i < 0 || i >= length) {
-            return NONE;
-        }
+        return i < 0 || i >= length ? NONE : nameByteFromEnd(name, length - 1 - i);
+    }
+
+    private static int nameByteFromEnd(long name, int behind) {
         long rest = name;
-        for (int behind = length - 1; behind > i; behind--) {
+        for (int i = 0; i < behind; i++) {
             rest /= 37;
         }
         int letter = (int) (rest % 37);
@@ -558,9 +559,8 @@ public final class JobText {
         }
 
         void addName(long name) {
-            int length = nameLength(name);
-            for (int i = 0; i < length; i++) {
-                add(nameByte(name, i));
+            for (int behind = nameLength(name) - 1; behind >= 0; behind--) {
+                add(nameByteFromEnd(name, behind));
             }
         }
 
@@ -676,7 +676,6 @@ public final class JobText {
         }
 
         void look() {
-            skipToToken();
             place = next;
             int b = here();
             if (b == NONE) {
@@ -696,7 +695,7 @@ public final class JobText {
             return files[file].at(next);
         }
 
-        private void skipToToken() {
+        void skipToToken() {
             for (int i = 0; i <= FILE_BYTES && fault.what == 0; i++) {
                 int b = here();
                 if (b == '#') {
@@ -836,8 +835,9 @@ public final class JobText {
             state = AT_STATEMENT;
             words.begin(job, first);
             for (int i = 0; i < TOKENS && words.depth > 0 && fault.what == 0; i++) {
-                words.look();
+                words.skipToToken();
                 if (fault.what == 0) {
+                    words.look();
                     meetToken();
                 }
             }
@@ -1139,14 +1139,6 @@ public final class JobText {
         boolean isLike(Input other) {
             return name == other.name && sideName == other.sideName;
         }
-
-        void printTo(Bytes page) {
-            page.addName(name);
-            if (sideName != 0) {
-                page.add('.');
-                page.addName(sideName);
-            }
-        }
     }
 
     /** A source or an operator, as it was told; what was not told is 0. */
@@ -1359,7 +1351,11 @@ public final class JobText {
                 if (j > 0) {
                     page.addText(", ");
                 }
-                inputs[j].printTo(page);
+                page.addName(inputs[j].name);
+                if (inputs[j].sideName != 0) {
+                    page.add('.');
+                    page.addName(inputs[j].sideName);
+                }
             }
         }
 
