@@ -11,6 +11,7 @@ public final class JobTest {
         chains();
         channels();
         setsAndLoops();
+        rowsUsedAgain();
         Desk.end();
     }
 
@@ -177,6 +178,17 @@ public final class JobTest {
         desk.mustRead(0, "source s; op a: map from s pass 1/997; op b: map from a pass 1/991; op c: map from b pass 1/983;"
             + "op d: map from s pass 1/977; op u: union from c, d;", 6);
         Desk.due("unlike lower numbers", desk.flow(0, 5), "-5/-5 -5/-5");
+        desk.mustRead(0, "source s; op a: map from s pass 1/500; op b: map from a pass 1/500; op c: map from b pass 1/500;"
+            + "op d: map from c pass 1/8;", 5);
+        Desk.due("the greatest lower number", desk.flow(0, 4), "1/1000000000 7/1000000000");
+        // 1 / (30907 * 36667) and 4738 / 30907 would together be small again.
+        desk.mustRead(0, "source s; op a: map from s pass 1/31; op b: map from a pass 1/997; op c: map from b pass 1/991;"
+            + "op d: map from c pass 1/37; source t rate 4738; op e: map from t pass 1/31; op f: map from e pass 1/997;"
+            + "op u: union from d, f; op v: union from f, d;", 10);
+        Desk.due("a big one", desk.flow(0, 4), "-5/-5 -5/-5");
+        Desk.due("a small one", desk.flow(0, 7).replaceAll(" .*", ""), "4738/30907");
+        Desk.due("a big one and a small one", desk.flow(0, 8), "-5/-5 -5/-5");
+        Desk.due("a small one and a big one", desk.flow(0, 9), "-5/-5 -5/-5");
     }
 
     private static void dueChains(String text, String want) {
@@ -205,6 +217,8 @@ public final class JobTest {
         dueChains("source s; op u: union from s, s; op a: map from u; loop a to u; loop u to u;",
             "0 1 2: 3 chains, 3 tasks, 5 channels");
         dueChains("source s; op u: union from s, s; op a: map from u; loop a to u;", "0 1 1f: 2 chains, 2 tasks, 3 channels");
+        dueChains("source s; op u: union from s, s; op a: map from u; op b: map from u; loop u to u;",
+            "0 1 2 3: 4 chains, 4 tasks, 5 channels");
         dueChains("op c: map from b; op b: map from s key k; source s; source t;", "1f 1 0 2: 3 chains, 3 tasks, 1 channels");
     }
 
@@ -241,5 +255,29 @@ public final class JobTest {
         Desk.due("loop 1", desk.x.loop(0, 1, 0), 1);
         Desk.due("loop 1", desk.x.loop(0, 1, 1), 1);
         Desk.due("loop 2", desk.x.loop(0, 2, 1), JobText.BAD);
+    }
+
+    private static void rowsUsedAgain() {
+        Desk desk = new Desk();
+        String rich = "# c\nset a = b; source s par 3 rate 7 key k side x, y; op b: span from s par 2 pass 3/4 keep 5 side z;"
+            + "op u: union from b, b.z key l; op c: sink from u, s.x; loop u to u;";
+        for (int i = 0; i < 3; i++) {
+            desk.mustRead(i % 2, rich, 4);
+        }
+        for (int i = 0; i < 3; i++) {
+            desk.mustRead(i % 2, "set a = 1; source s; op b: map from s; op u: flat from b; op c: map from u;", 4);
+            dueCounts(desk, i % 2, "4 1 0 0 1 1 0 4");
+            Desk.due("s", desk.operator(i % 2, 0), "0 0 0 0 0 0 0 0 0 0 18 0 0 0 1 0");
+            Desk.due("b", desk.operator(i % 2, 1), "1 0 0 0 0 0 1 0 1 0 24 1 1 0 1 1");
+            Desk.due("u", desk.operator(i % 2, 2), "3 0 0 0 0 0 1 0 2 0 42 2 2 0 1 1");
+            Desk.due("c", desk.operator(i % 2, 3), "1 0 0 0 0 0 1 0 3 0 61 3 3 0 0 1");
+            Desk.due("c's flow", desk.flow(i % 2, 3), "1/1 0/1");
+            Desk.due("u's key", desk.x.letter(i % 2, 2, 1, 0), JobText.NONE);
+            Desk.due("b's side", desk.x.letter(i % 2, 1, 2, 0), JobText.NONE);
+            Desk.due("b's input", desk.x.input(i % 2, 1, 0, 1), JobText.NONE);
+            Desk.due("the set", desk.x.set(i % 2, 0, 0), 1);
+        }
+        desk.mustRead(0, "", 0);
+        dueCounts(desk, 0, "0 0 0 0 0 0 0 0");
     }
 }

@@ -68,6 +68,7 @@ public final class JudgeTest {
         String job = "source s; op u: union from s, s; op m: map from u side t; op v: union from m.t, s; ";
         desk.mustRead(0, job + "loop u to u; loop m to u; loop v to u; loop v to v;", 4);
         desk.mustFail(14, job + "loop ^m to v;");
+        desk.mustRead(0, "op m: map from u; op u: union from s, s; op n: map from m; source s; loop n to u;", 4);
         desk.mustFail(14, job + "loop u to u; loop ^s to u;");
         desk.mustFail(14, job + "op j: fold from s; loop ^u to v;");
         desk.mustFail(13, "op ^a: map from a; source s; op u: union from s, s; loop s to u;");

@@ -6,6 +6,7 @@ public final class PrintTest {
         outAndTake();
         longPage();
         differing();
+        mostDifferences();
         differencesStay();
         numbering();
         fullNumbers();
@@ -116,8 +117,21 @@ public final class PrintTest {
         dueDifferences("source a key k; op b: fold from a keep 1;", "source a key k; op b: fold from a;", "2 1 64");
         dueDifferences("source a side x, y;", "source a side y, x;", "2 0 128");
         dueDifferences("source a side x, y;", "source a side x;", "2 0 128");
+        dueDifferences("source a side x, y;", "source a side z, y;", "2 0 128");
+        dueDifferences("source a side x, y;", "source a side x, z;", "2 0 128");
         dueDifferences("source a; source s; op b: join from c, c keep 2 side x par 3 pass 1/2; source c key k;",
             "source b rate 5; source c key k;", "1 0 0, 1 1 0, 2 2 223");
+    }
+
+    private static void mostDifferences() {
+        Desk desk = new Desk();
+        desk.mustRead(0, sources("a", 0, 40), 40);
+        desk.mustRead(1, sources("b", 0, 40), 40);
+        Desk.due("differ() of unlike jobs", desk.x.differ(), 80);
+        Desk.due("the last one of job 0", desk.x.difference(39, 1), 39);
+        Desk.due("the first one of job 1", desk.x.difference(40, 0), 3);
+        Desk.due("the last one of job 1", desk.x.difference(79, 1), 39);
+        Desk.due("difference(80, 0)", desk.x.difference(80, 0), JobText.BAD);
     }
 
     private static void differencesStay() {
