@@ -121,9 +121,10 @@ public final class JobText {
         for (int k = 0; k < JOBS; k++) {
             jobs[k] = new Job();
         }
-        spare = new Job();
+        Job emptyJob = new Job();
+        spare = emptyJob;
         latest = noFault;
-        reader = new Reader(emptyFiles, noFault);
+        reader = new Reader(emptyFiles, noFault, emptyJob);
         judge = new Judge(noFault);
         numberNames = new long[NUMBERS];
         differences = new int[2 * OPERATORS * DIFFERENCE_FIELDS];
@@ -621,9 +622,10 @@ public final class JobText {
         int value;
         long name;
 
-        Words(Bytes[] theFiles, Fault theFault) {
+        Words(Bytes[] theFiles, Fault theFault, Job firstJob) {
             files = theFiles;
             fault = theFault;
+            job = firstJob;
             openFiles = new int[FILES];
             openPlaces = new int[FILES];
             keys = new long[KEYS];
@@ -821,9 +823,10 @@ public final class JobText {
         private Pair line;
         private int propertiesLeft;
 
-        Reader(Bytes[] files, Fault theFault) {
-            words = new Words(files, theFault);
+        Reader(Bytes[] files, Fault theFault, Job firstJob) {
+            words = new Words(files, theFault, firstJob);
             fault = theFault;
+            job = firstJob;
             operator = new Operator();
             line = new Pair();
         }

@@ -5,6 +5,7 @@ public final class PrintTest {
         comments();
         outAndTake();
         longPage();
+        longestPage();
         differing();
         mostDifferences();
         differencesStay();
@@ -88,6 +89,43 @@ public final class PrintTest {
         Desk.due("take of a long page", desk.x.take(), 1200);
         Desk.due("file of it", desk.x.file(0), 1200);
         Desk.due("its first bytes", Desk.text(i -> desk.x.byteOf(0, i)), start.substring(0, 1200));
+    }
+
+    private static String longUnion(int i) {
+        String stream = "thesourceone.sidenumber01";
+        return "op longunion0" + i + ": union from " + stream + (", " + stream).repeat(3) + " par 64 key thelongerkey;\n";
+    }
+
+    /** The text as short as it can be typed: nothing stands between two tokens that need nothing. */
+    private static String squeezed(String text) {
+        return text.replaceAll("([:,=;])[ \n]", "$1").replace(" =", "=").replace("# ", "#");
+    }
+
+    // As many and as long statements and comments as six full files can tell.
+    private static void longestPage() {
+        Desk desk = new Desk();
+        String comment = "# " + "#".repeat(60) + "\n";
+        String loop = "loop longunion010 to longunion010;\n";
+        StringBuilder sets = new StringBuilder();
+        for (int i = 10; i < 26; i++) {
+            sets.append("set longestset").append(i).append(" = longestvalue;\n");
+        }
+        desk.putFile(1, squeezed(comment.repeat(19)));
+        StringBuilder want = new StringBuilder();
+        for (int file = 2; file <= 5; file++) {
+            StringBuilder text = new StringBuilder();
+            for (int i = 0; i < 7; i++) {
+                text.append(longUnion(file * 10 - 10 + i));
+            }
+            text.append(loop.repeat(2));
+            desk.putFile(file, squeezed(text.toString()));
+            want.append(text);
+        }
+        String source = "source thesourceone par 64 rate 99999 key thelongerkey side sidenumber01, sidenumber02, sidenumber03;\n";
+        String rest = source + sets + comment + longUnion(60) + comment + longUnion(61);
+        desk.mustRead(0, "use 1;use 2;use 3;use 4;use 5;use 1;" + squeezed(rest), 31);
+        Desk.due("the longest page", desk.printed(0), comment.repeat(19) + want + comment.repeat(19) + rest);
+        Desk.due("its bytes", desk.x.print(0), 40 * 63 + 30 * 160 + 16 * 33 + 8 * 35 + source.length());
     }
 
     private static void dueDifferences(String first, String second, String want) {
