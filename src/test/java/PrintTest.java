@@ -145,6 +145,10 @@ public final class PrintTest {
         dueDifferences("source a side x, y; op b: map from a.x;", "source a side x, y; op b: map from a.y;", "2 1 2");
         dueDifferences("source a; op b: sink from a;", "source a; op b: sink from a, a;", "2 1 2");
         dueDifferences("source a; source b; op c: sink from a, b;", "source a; source b; op c: sink from b, a;", "2 2 2");
+        dueDifferences("source a; op u: union from a, a, a, a;", "source a; op u: union from a, a, a, a;", "");
+        dueDifferences("source a; source b; op u: union from a, a, a, a;", "source a; source b; op u: union from a, a, a, b;", "2 2 2");
+        dueDifferences("source a side x, y, z;", "source a side x, y, z;", "");
+        dueDifferences("source a side x, y, z;", "source a side x, y, w;", "2 0 128");
         dueDifferences("source a;", "source a par 1;", "2 0 4");
         dueDifferences("source a par 2;", "source a par 3;", "2 0 4");
         dueDifferences("source a;", "source a rate 1;", "2 0 8");

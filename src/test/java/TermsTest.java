@@ -31,6 +31,7 @@ public final class TermsTest {
         filesBeingRead();
         toldTwice();
         whoseComment();
+        mostTokens();
         Desk.end();
     }
 
@@ -519,5 +520,19 @@ public final class TermsTest {
         Desk.due("within a statement", desk.printed(0), "source a;\n# 1\n# 2\nset b = 5;\n# 3\n# 4\n# 5\n");
         desk.mustRead(0, "source a; # 1\nuse # 2\n3 # 3\n; # 4\nuse 4; # 5\nset c = 1;", 1);
         Desk.due("at a use", desk.printed(0), "source a;\n# 1\n# 2\n# 3\n# 4\n# 5\nset c = 1;\n");
+    }
+
+    // As many of all as may be, in as many files, with as many words in each.
+    private static void mostTokens() {
+        Desk desk = new Desk();
+        String behind = ":join from s.x,s.y par 1 pass 1/2 keep 1 side a,b,c;";
+        desk.putFile(1, "source s par 1 rate 1 key k side x,y,z;" + rising("op a", 1, 19, behind));
+        desk.putFile(2, rising("op a", 20, 38, behind));
+        desk.putFile(3, "op u:union from s.x,s.y,s.z,s.x par 1 key k;" + "loop u to u;".repeat(8) + rising("set a", 1, 16, "=a;"));
+        desk.mustRead(0, "use 1;use 2;use 3;" + "use 4;".repeat(27), 40);
+        Desk.due("sets", desk.x.count(0, 1), 16);
+        Desk.due("loops", desk.x.count(0, 2), 8);
+        desk.mustFail(3, "use 1;use 2;use 3;" + "use 4;".repeat(27) + "use ^4;");
+        desk.mustFail(3, "use 1;use 2;use 3;" + "use 4;".repeat(27) + "set ^a;");
     }
 }
