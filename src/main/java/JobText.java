@@ -496,7 +496,9 @@ public final class JobText {
 
     private static int nameLength(long name) {
         int length = 0;
-        for (long rest = name; rest > 0; rest /= 37) {
+        long rest = name;
+        while (length < NAME_BYTES && rest > 0) {
+            rest /= 37;
             length++;
         }
         return length;
@@ -566,10 +568,12 @@ public final class JobText {
         }
 
         void addNumber(int number) {
-            for (int unit = 10000; unit > 0; unit /= 10) {
+            int unit = 10000;
+            for (int i = 0; i < NUMBER_DIGITS && unit > 0; i++) {
                 if (number >= unit || unit == 1) {
                     add('0' + number / unit % 10);
                 }
+                unit /= 10;
             }
         }
     }
